@@ -1297,9 +1297,12 @@ public final class LatePrices {
             int best = 0;
             int most = debt(p, 0);
             for (int d = 0; d < deals.size; d++) {
+                if (taken[d] == 0) {
+                    continue;
+                }
                 int minute = deals.at(d, DEAL_COMES);
-                int sum = taken[d] > 0 ? debt(p, minute) : 0;
-                if (taken[d] > 0 && (sum > most || sum == most && minute < best)) {
+                int sum = debt(p, minute);
+                if (sum > most || sum == most && minute < best) {
                     best = minute;
                     most = sum;
                 }

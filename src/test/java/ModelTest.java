@@ -154,14 +154,20 @@ public final class ModelTest {
 
     // ---- arguments
 
+    /** A number just out of its bounds, or far out. */
+    private int off(int behind) {
+        int[] all = {-1, behind, -1, behind, -4, Integer.MIN_VALUE, Integer.MAX_VALUE};
+        return all[below(all.length)];
+    }
+
     private int place() {
-        return oneIn(50) ? (oneIn(2) ? -1 : places) : below(Math.max(1, places));
+        return oneIn(50) ? off(places) : below(Math.max(1, places));
     }
 
     private int minute() {
         switch (below(60)) {
-            case 0: return -1;
-            case 1: return 1000;
+            case 0:
+            case 1: return off(1000);
             case 2: return 999;
             case 3: return below(1000);
             default: return below(range);
@@ -169,15 +175,15 @@ public final class ModelTest {
     }
 
     private int what(int most) {
-        return oneIn(60) ? (oneIn(2) ? -1 : most + 1) : below(most + 1);
+        return oneIn(60) ? off(most + 1) : below(most + 1);
     }
 
     private int call() {
-        return oneIn(60) ? (oneIn(2) ? -1 : want.count(1)) : below(Math.max(1, want.count(1)));
+        return oneIn(60) ? off(want.count(1)) : below(Math.max(1, want.count(1)));
     }
 
     private int deal() {
-        return oneIn(60) ? (oneIn(2) ? -1 : want.count(2)) : below(Math.max(1, want.count(2)));
+        return oneIn(60) ? off(want.count(2)) : below(Math.max(1, want.count(2)));
     }
 
     // ---- calls
@@ -334,12 +340,12 @@ public final class ModelTest {
 
     private void askWorth() {
         int n = what(12);
-        int k = below(27) - 13;
+        int k = oneIn(60) ? off(13) : below(27) - 13;
         int w = what(12);
         int x = what(1);
         int a = oneIn(2) ? number(0, 999) : below(4);
         int b = oneIn(2) ? number(1, 999) : below(9);
-        int m = oneIn(9) ? n + 1 : n < 1 ? 0 : below(n + 1);
+        int m = oneIn(9) ? n + 1 : n < 1 || n > 12 ? off(0) : below(n + 1);
         switch (below(4)) {
             case 0:
                 same("odds(" + n + ", " + k + ", " + x + ")", got.odds(n, k, x), want.odds(n, k, x));
@@ -357,11 +363,11 @@ public final class ModelTest {
     }
 
     private void useSheets() {
-        int k = oneIn(40) ? (oneIn(2) ? -1 : 4) : below(oneIn(3) ? 4 : 2);
-        int lane = oneIn(40) ? (oneIn(2) ? -1 : 3) : oneIn(3) ? 2 : 1;
+        int k = oneIn(40) ? off(4) : below(oneIn(3) ? 4 : 2);
+        int lane = oneIn(40) ? off(3) : oneIn(3) ? 2 : 1;
         switch (below(9)) {
             case 0:
-                int n = oneIn(12) ? -1 : oneIn(12) ? 41 : below(41);
+                int n = oneIn(6) ? off(41) : below(41);
                 same("sheet(" + k + ", " + lane + ", " + n + ")", got.sheet(k, lane, n),
                         want.sheet(k, lane, n));
                 break;
@@ -382,7 +388,7 @@ public final class ModelTest {
                 break;
             case 5:
                 int f = oneIn(30) ? random.nextInt() : oneIn(9) ? below(43) - 2 : 3 * below(10);
-                int m = oneIn(30) ? 14 : oneIn(30) ? -1 : oneIn(5) ? below(14) : below(4);
+                int m = oneIn(15) ? off(14) : oneIn(5) ? below(14) : below(4);
                 same("read(" + k + ", " + lane + ", " + f + ", " + m + ")", got.read(k, lane, f, m),
                         want.read(k, lane, f, m));
                 same("torn()", got.torn(), want.torn());

@@ -186,6 +186,8 @@ public final class PromisesTest {
         broken("place 5;;", 2, 8);
         broken("places 5;", 2, 0);
         broken("plac 5;", 2, 0);
+        broken("a 5;", 2, 0);
+        broken("z 5;", 2, 0);
         broken("placeplace 5;", 2, 0);
         broken("place;", 2, 5);
         broken("place  ", 2, 7);
@@ -220,6 +222,7 @@ public final class PromisesTest {
         broken("first near;first", 4, 11);
         broken("most 5;most,", 4, 7);
         broken("place 1;place 1;way 0 1 5;way 1 0 5;", 4, 32);
+        broken("place 1;place 1;way 0 1 1;way 1 0 5;", 4, 32);
         broken("place 1;place 1;way 0 1 5;way 0 1 ,", 4, 32);
         // 5: too many
         broken("place 1;place 1;place 1;place 1;place 1;place ,", 5, 40);
@@ -263,6 +266,7 @@ public final class PromisesTest {
         due(x.way(0, 4), BAD);
         due(x.way(4, 0), BAD);
         due(x.way(0, LOW), BAD);
+        due(made("place 1;place 1;way 1 0 1;").way(0, 1), 1);
     }
 
     // 8 to 12: news, prices
@@ -310,6 +314,8 @@ public final class PromisesTest {
         due(x.knows(1, 0, 9, 1), 9);
         due(x.knows(1, 0, 9, 2), 100);
         due(x.knows(1, 0, 28, 0), 19);
+        due(x.knows(1, 0, 29, 0), 19);
+        due(x.knows(1, 0, 40, 0), 19);
         due(x.knows(1, 0, 42, 0), 19);
         due(x.knows(1, 0, 42, 1), 23);
         due(x.knows(1, 0, 42, 2), 55);
@@ -328,6 +334,7 @@ public final class PromisesTest {
         due(x.knows(0, 1, 1000, 0), BAD);
         due(x.knows(0, 1, 9, -1), BAD);
         due(x.knows(0, 1, 9, 3), BAD);
+        due(made("place 1;place 1;way 1 0 1;").knows(0, 1, 1, 0), 0);
     }
 
     static void p10() {
@@ -550,9 +557,14 @@ public final class PromisesTest {
         due(x.seen(0, 0, 1), 999);
         due(x.seen(0, 1, 1), 1008);
         due(x.seen(0, 3, 1), NONE);
+        x.call(2, 0, 1, 70, 6, 0, 0);
+        x.takeBack(1, 0);
+        due(x.seen(1, 2, 0), 0);
+        due(x.seen(1, 1, 0), 3);
+        due(x.seen(1, 1, 1), 3);
         due(x.seen(0, 4, 0), BAD);
         due(x.seen(0, -1, 0), BAD);
-        due(x.seen(1, 0, 0), BAD);
+        due(x.seen(2, 0, 0), BAD);
         due(x.seen(-1, 0, 0), BAD);
         due(x.seen(0, 0, 2), BAD);
         due(x.seen(0, 0, -1), BAD);
@@ -610,6 +622,15 @@ public final class PromisesTest {
         first("first sent;", new int[] {2, 0, 3, 0});
         first("first near;", new int[] {0, 2, 2, 1});
         first("first number;", new int[] {2, 2, 1, 0});
+        // alike by the rule: as told
+        for (String rule : new String[] {"sent", "near", "number"}) {
+            LatePrices y = made(STAR + "first " + rule + ";");
+            y.call(0, 0, 1, 50, 5, 0, 0);
+            y.deal(2, 0, 35, 4);
+            y.deal(2, 0, 35, 3);
+            due(y.sent(0, 5), 4);
+            due(y.sent(1, 5), 1);
+        }
     }
 
     /** Four deals that come in one minute for five units. */
@@ -708,9 +729,25 @@ public final class PromisesTest {
         z.deal(2, 0, 10, 3);
         z.deal(2, 0, 10, 5);
         due(z.undo(2, 1), 1);
+        debtOf(10, 14, 11, 2, 3);
+        debtOf(12, 14, 11, 1, 1);
+        debtOf(11, 14, 11, 1, 1);
+        debtOf(14, 14, 11, 1, 1);
+        debtOf(13, 11, 14, 1, 2);
+        debtOf(14, 11, 14, 1, 1);
     }
 
     // 22 to 26: what it brings
+
+    /** A place that owes two sums. */
+    private static void debtOf(int most, int first, int second, int fewest, int bits) {
+        LatePrices x = made(STAR + "most " + most + ";");
+        x.call(0, 0, 1, 1, 99, 0, 0);
+        x.deal(2, 0, 10, first);
+        x.deal(2, 0, 10, second);
+        due(x.undo(2, 0), fewest);
+        due(x.undo(2, 1), bits);
+    }
 
     private static LatePrices bargains() {
         LatePrices x = made(LINE);
@@ -762,6 +799,11 @@ public final class PromisesTest {
         y.call(2, 0, 0, 50, 3, 1, 99);
         due(y.gain(1, 20, true, 0), 0);
         due(y.gain(1, 20, true, 1), 0);
+        LatePrices z = made(LINE);
+        z.call(2, 0, 0, 51, 3, 1, 99);
+        z.call(0, 0, 1, 50, 4, 1, 99);
+        due(z.gain(1, 20, true, 0), 3);
+        due(z.gain(1, 20, true, 1), 3);
     }
 
     static void p23() {
@@ -783,6 +825,12 @@ public final class PromisesTest {
         due(x.chance(-1, 0, false), BAD);
         due(x.chance(0, -1, false), BAD);
         due(x.chance(0, 1000, false), BAD);
+        LatePrices y = made(LINE);
+        y.call(2, 0, 0, 50, 3, 1, 99);
+        y.call(0, 0, 1, 50, 4, 1, 99);
+        due(y.chance(1, 0, false), NONE);
+        y.call(0, 0, 1, 49, 4, 1, 99);
+        due(y.chance(1, 0, false), 7);
     }
 
     private static LatePrices debts() {
@@ -868,6 +916,20 @@ public final class PromisesTest {
         due(x.peak(-1, 0), WORST);
         due(x.peak(0, -1), WORST);
         due(x.peak(0, 2), WORST);
+        // told the other way round, of one unit each
+        LatePrices y = made(STAR);
+        y.call(0, 0, 1, 50, 9, 0, 0);
+        y.deal(2, 0, 30, 1);
+        y.deal(2, 0, 20, 1);
+        y.deal(2, 0, 40, 1);
+        due(y.peak(2, 0), 45);
+        due(y.peak(2, 1), 150);
+        y.takeBack(0, 40);
+        due(y.peak(2, 0), 35);
+        due(y.peak(2, 1), 100);
+        y.takeBack(0, 30);
+        due(y.peak(2, 0), 25);
+        due(y.peak(2, 1), 50);
     }
 
     // 27 to 29: the common book
