@@ -650,7 +650,7 @@ public final class LatePrices {
 
         /** Where bytes between two, from one on, end. */
         private int endOfRun(int from, int low, int high) {
-            for (int i = Math.max(from, 0); i < length && i < TAPE; i++) {
+            for (int i = from; i >= 0 && i < length && i < TAPE; i++) {
                 if (bytes[i] < low || bytes[i] > high) {
                     return i;
                 }
