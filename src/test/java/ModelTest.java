@@ -14,6 +14,8 @@ public final class ModelTest {
     private int calls;
     private int places;
     private int range = 60;
+    /** The first of the minutes that most is told of: the first of all, or such that 999 is the last. */
+    private int base;
     /** Short ways, few minutes, low bounds: much comes at once and much is struck. */
     private boolean dense;
     private boolean wrong;
@@ -88,7 +90,7 @@ public final class ModelTest {
         int shuts = ways.isEmpty() ? 0 : oneIn(3) ? below(14) : below(5);
         for (int i = 0; i < shuts; i++) {
             int[] w = ways.get(below(ways.size()));
-            int from = number(0, oneIn(9) ? 999 : range - 1);
+            int from = base + number(0, oneIn(9) ? 999 - base : range - 1);
             int to = Math.min(999, from + below(oneIn(5) ? 300 : 20));
             boolean round = oneIn(2);
             s.append(join("shut", w[round ? 0 : 1], w[round ? 1 : 0], from, to));
@@ -170,7 +172,7 @@ public final class ModelTest {
             case 1: return off(1000);
             case 2: return 999;
             case 3: return below(1000);
-            default: return below(range);
+            default: return base + below(range);
         }
     }
 
@@ -219,7 +221,7 @@ public final class ModelTest {
     }
 
     private void tellCall(int p, int minute) {
-        int m = dense && !oneIn(20) ? below(6) : minute;
+        int m = dense && !oneIn(20) ? base + below(6) : minute;
         int side = what(1);
         int price = number(1, oneIn(4) ? 999 : 60);
         int units = number(1, oneIn(4) ? 99 : 12);
@@ -427,11 +429,13 @@ public final class ModelTest {
         boolean few = oneIn(2);
         dense = oneIn(2);
         range = dense ? 20 : 60;
+        base = oneIn(4) ? 1000 - range : 0;
         tell(oneIn(3) ? spoiled(text()) : text());
         while (calls < CALLS - 80 && !wrong) {
             if (oneIn(places == 0 ? 5 : few ? 400 : 120)) {
                 dense = oneIn(2);
                 range = dense ? 20 : oneIn(4) ? 200 : 60;
+                base = oneIn(4) ? 1000 - range : 0;
                 tell(oneIn(2) ? spoiled(text()) : text());
             }
             switch (below(10)) {
