@@ -130,6 +130,11 @@ final class EdgesOfGains {
         z.due("owes(2, 0, 10, 2)", 201).does("takeBack(2, 12)").due("owes(2, 0, 11, 2)", 201);
         z.due("owes(2, 0, 12, 2)", 200).does("takeBack(1, 45)").due("owes(2, 0, 44, 2)", 350);
         z.due("owes(2, 0, 45, 2)", 150);
+        // all CALLS and DEALS that there can be: six to buy nine units each, two of each bought
+        Run f = EdgesOfText.full().due("owes(1, 0, 32, 0)", 0).due("owes(1, 0, 33, 0)", 12);
+        f.due("owes(1, 1, 37, 1)", 0).due("owes(1, 1, 38, 1)", 12).due("owes(0, 0, 0, 2)", 36 * 9);
+        f.each("owes(0, 2, 999, %)", -12, -12, 36 * 7 - 12).each("owes(1, 2, 999, %)", 12, 12, 12);
+        f.each("peak(0, %)", 20, 6).each("peak(1, %)", 33, 12).each("undo(1, %)", 0, 0);
         Run all = Run.of(STAR).does("call(2, 0, 0, 10, 4, 0, 0)", "deal(0, 0, 10, 4)");
         all.due("owes(2, 0, 14, 2)", 40).due("owes(2, 0, 15, 2)", 40).due("owes(2, 0, 999, 2)", 40);
     }

@@ -46,6 +46,9 @@ final class EdgesOfNews {
         by.each("knows(%, 0, 7, 0)", 7, 6, 5, 4).each("knows(%, 3, 7, 0)", 4, 5, 6, 7);
         by.each("knows(%, 0, 20, 0)", 20, 19, 18, 17).each("knows(%, 3, 20, 0)", 17, 18, 19, 20);
         by.each("knows(3, %, 3, 0)", 0, 1, 2, 3).each("knows(3, %, 2, 0)", NONE, 0, 1, 2);
+        Run as = Run.of("place 1;place 1;place 1;place 1;way 3 0 1;way 3 2 10;way 0 2 1;way 2 1 1;");
+        as.each("comes(3, %, 7)", 8, 10, 9, 7).each("comes(1, %, 7)", 9, 7, 8, 10);
+        as.each("knows(%, 3, 20, 0)", 19, 17, 18, 20).each("knows(%, 1, 20, 0)", 18, 20, 19, 17);
         Run far = Run.of(CHAIN);
         far.due("comes(0, 4, 0)", 396).due("comes(0, 4, 999)", 1396).due("comes(4, 0, 999)", 1396);
         far.due("comes(0, 4, 603)", 999).due("comes(0, 4, 604)", 1000).due("comes(1, 3, 999)", 1197);

@@ -35,7 +35,7 @@ final class EdgesOfText {
         return x.feeds("place 5;place 66");
     }
 
-    /** No room for one more STEP, CALL, DEAL, byte. */
+    /** No room for one more STEP, CALL, DEAL, byte. 1 sells to 0 at 1, 3 .. 11, buys at 2, 4 .. 12. */
     static Run full() {
         Run x = Run.of(LINE);
         x.does("sheet(0, 1, 3)").lays(0, 0, 5, 50);
@@ -43,7 +43,7 @@ final class EdgesOfText {
             x.does("step(" + i % 3 + ", " + i + ", " + (i + 1) + ")");
         }
         for (int i = 0; i < 12; i++) {
-            x.does("call(0, 0, 1, " + (i + 1) + ", 9, 0, 0)");
+            x.does("call(0, 0, " + i % 2 + ", " + (i + 1) + ", 9, 0, 0)");
         }
         for (int i = 0; i < 24; i++) {
             x.does("deal(1, " + i % 12 + ", " + (5 + i) + ", 1)");
